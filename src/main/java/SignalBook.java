@@ -1405,13 +1405,14 @@ public final class SignalBook {
 
         private void fail(int kind, int item) {
             failing = true;
-            causeCount = 0;
-            noteCause(kind, item);
+            causeKinds[0] = kind;
+            causeItems[0] = item;
+            causeCount = 1;
         }
 
-        private void noteCause(int kind, int item) {
+        private void failAround(int item) {
             if (causeCount < causeKinds.length) {
-                causeKinds[causeCount] = kind;
+                causeKinds[causeCount] = START_FAILED;
                 causeItems[causeCount] = item;
                 causeCount++;
             }
@@ -1435,7 +1436,7 @@ public final class SignalBook {
             underWayCount--;
             book.setState(item, failing ? Book.BROKEN : Book.WELL);
             if (failing) {
-                noteCause(START_FAILED, item);
+                failAround(item);
             }
         }
 
@@ -1514,15 +1515,13 @@ public final class SignalBook {
                 case Code.ADD: push(left + right); break;
                 case Code.SUBTRACT: push(left - right); break;
                 case Code.MULTIPLY: push(left * right); break;
-                default: divide(left, right); break;
-            }
-        }
-
-        private void divide(int left, int right) {
-            if (right == 0) {
-                fail(NO_NUMBER, NONE);
-            } else {
-                push(left / right);
+                default:
+                    if (right == 0) {
+                        fail(NO_NUMBER, NONE);
+                    } else {
+                        push(left / right);
+                    }
+                    break;
             }
         }
 
