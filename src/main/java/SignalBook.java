@@ -713,6 +713,8 @@ public final class SignalBook {
         private int at;
         private int kind;
         private long value;
+        /** The latest NAME that was told as a new one. */
+        private long newName;
         int fault;
         int faultPlace;
 
@@ -749,11 +751,10 @@ public final class SignalBook {
             if (!pass(isEnum && book.enumCount < MAX_ENUMS, isEnum ? TOO_MUCH : MISPLACED)) {
                 return false;
             }
-            long name = value;
-            if (!acceptNew(book.findEnum(name) >= 0, true)) {
+            if (!acceptNew(book.findEnum(value) >= 0, true)) {
                 return false;
             }
-            current = new Enumeration(name);
+            current = new Enumeration(newName);
             current.firstCode = code.length;
             book.keepEnum(current);
             return accept('{');
@@ -771,11 +772,10 @@ public final class SignalBook {
         }
 
         private boolean readConstant() {
-            long name = value;
-            if (!acceptNew(current.knows(name), current.constantCount < MAX_CONSTANTS)) {
+            if (!acceptNew(current.knows(value), current.constantCount < MAX_CONSTANTS)) {
                 return false;
             }
-            Constant told = new Constant(name);
+            Constant told = new Constant(newName);
             current.constants[current.constantCount] = told;
             current.constantCount++;
             if (kind == '(') {
@@ -804,15 +804,14 @@ public final class SignalBook {
             if (!accept(Tokens.ACT)) {
                 return false;
             }
-            long name = value;
-            int act = findAct(name);
+            int act = findAct(value);
             boolean isNew = act < 0;
             if (!acceptNew(!isNew && bodies[act] != NO_CODE, !isNew || book.actCount < MAX_ACTS)) {
                 return false;
             }
             if (isNew) {
                 act = book.actCount;
-                acts[act] = name;
+                acts[act] = newName;
                 book.actCount++;
             }
             bodies[act] = code.length;
@@ -847,14 +846,10 @@ public final class SignalBook {
         }
 
         private boolean readTable() {
-            if (!pass(current.tableCount < MAX_TABLES, TOO_MUCH)) {
+            if (!acceptMember(current.tableCount < MAX_TABLES)) {
                 return false;
             }
-            long name = value;
-            if (!acceptNew(current.knows(name), true)) {
-                return false;
-            }
-            Table told = new Table(name);
+            Table told = new Table(newName);
             current.tables[current.tableCount] = told;
             current.tableCount++;
             return accept('=') && accept('[') && readEntries(told) && accept(']') && accept(';');
@@ -890,28 +885,20 @@ public final class SignalBook {
         }
 
         private boolean readHolder() {
-            if (!pass(current.holderCount < MAX_HOLDERS, TOO_MUCH)) {
+            if (!acceptMember(current.holderCount < MAX_HOLDERS)) {
                 return false;
             }
-            long name = value;
-            if (!acceptNew(current.knows(name), true)) {
-                return false;
-            }
-            current.holderNames[current.holderCount] = name;
+            current.holderNames[current.holderCount] = newName;
             current.holderCodes[current.holderCount] = code.length;
             current.holderCount++;
             return accept('=') && readSum(0) && accept(';');
         }
 
         private boolean readSwitch() {
-            if (!pass(current.switchCount < MAX_SWITCHES, TOO_MUCH)) {
+            if (!acceptMember(current.switchCount < MAX_SWITCHES)) {
                 return false;
             }
-            long name = value;
-            if (!acceptNew(current.knows(name), true)) {
-                return false;
-            }
-            Switch told = new Switch(name);
+            Switch told = new Switch(newName);
             current.switches[current.switchCount] = told;
             current.switchCount++;
             boolean well = accept('{');
@@ -929,12 +916,11 @@ public final class SignalBook {
             if (!pass(told.caseCount < MAX_CASES, TOO_MUCH)) {
                 return false;
             }
-            long name = value;
             int token = at;
-            if (!acceptNew(told.hasCase(name), true)) {
+            if (!acceptNew(told.hasCase(value), true)) {
                 return false;
             }
-            told.caseNames[told.caseCount] = name;
+            told.caseNames[told.caseCount] = newName;
             told.caseCodes[told.caseCount] = code.length;
             told.caseCount++;
             code.emit(Code.CASE, token);
@@ -1030,7 +1016,13 @@ public final class SignalBook {
             if (kind != Tokens.NAME) {
                 return pass(false, MISPLACED);
             }
+            newName = value;
             return pass(!known && room, known ? TOLD_ALREADY : TOO_MUCH);
+        }
+
+        /** The word of a table, holder or switch, and its NAME. */
+        private boolean acceptMember(boolean room) {
+            return pass(room, TOO_MUCH) && acceptNew(current.knows(value), true);
         }
 
         /** Goes past a TOKEN if it may stand there; else that is the FAULT. */
@@ -1070,7 +1062,7 @@ public final class SignalBook {
             }
         }
 
-        /** An ITEM STARTS once, and its STARTS alone see what is not there yet: no step does so twice. */
+        /** What is SEEN is seen by STARTS alone, and an ITEM STARTS once: no step sees twice. */
         void settle(Code whole) {
             code = whole;
             states = new int[END_OF_ITEMS];

@@ -113,6 +113,8 @@ public final class SetsAndMapsTest {
         d.due("join(0, 1, 4)", d.x.join(0, 1, 4), BAD);
         d.due("join(0, 40, 4)", d.x.join(0, 40, 4), NONE);
         d.due("add(39, 0)", d.x.add(39, 0), 1);
+        d.due("add(40, 0)", d.x.add(40, 0), NONE);
+        d.due("member(40, -1)", d.x.member(40, -1), NONE);
         d.due("map", d.x.map(0, 0), 0);
     }
 
@@ -162,6 +164,8 @@ public final class SetsAndMapsTest {
         d.due("map(0, 2)", d.x.map(0, 2), FULL);
         d.due("map(0, 3)", d.x.map(0, 3), NONE);
         d.due("put(9, 4, 1)", d.x.put(9, 4, 1), 1);
+        d.due("put(10, 0, 1)", d.x.put(10, 0, 1), NONE);
+        d.due("get(10, 0)", d.x.get(10, 0), NONE);
         d.due("set", d.x.set(0, 0), 0);
     }
 

@@ -16,6 +16,7 @@ public final class StartsTest {
         failures();
         failedIndexes();
         twelveUnderWay();
+        deepExprs();
         editions();
         outStays();
         Desk.end();
@@ -306,6 +307,23 @@ public final class StartsTest {
         d.due("twelve", d.x.use(1, 0), 0);
         d.gave("argument", d.x.argument(1, 0, 0), 0);
         d.due("told(1, 2)", d.x.told(1, 2), 12);
+    }
+
+    private static void deepExprs() {
+        Desk d = new Desk("deep exprs");
+        StringBuilder text = new StringBuilder();
+        for (int e = 0; e < 12; e++) {
+            text.append("enum E").append(e).append("{a(").append("1+2*(".repeat(12))
+                .append(e < 11 ? "E" + (e + 1) + ".a" : "3").append(")".repeat(12)).append(");}");
+        }
+        d.told(text.toString(), 0);
+        d.gave("argument", d.x.argument(0, 0, 0), 4095);
+        d.gave("argument", d.x.argument(0, 11, 0), 4096 * 3 + 4095);
+        d.told("enum A{a;act go=" + "1+2*(".repeat(12) + "1/0" + ")".repeat(12) + ";act to=1+2*3;}", 1);
+        for (int n = 0; n < 400; n++) {
+            d.due("go", d.x.act(1, 0, 0, 0), FAILED);
+        }
+        d.gave("what FAILED leaves nothing behind", d.x.act(1, 0, 0, 1), 7);
     }
 
     private static void editions() {

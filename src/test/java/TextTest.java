@@ -11,6 +11,7 @@ public final class TextTest {
         notThere();
         tooMuch();
         asMuchAsMayBe();
+        longTexts();
         nesting();
         whatWasTold();
         Desk.end();
@@ -220,6 +221,25 @@ public final class TextTest {
         d.due("ACTS", d.x.told(1, 1), 4);
         d.gave("entry", d.x.entry(1, 0, 3, 11), 1);
         d.gave("branch", d.x.branch(1, 0, 2, 23), 1);
+        d.due("use(0, 12)", d.x.use(0, 12), SignalBook.NONE);
+        d.due("argument(1, 0, 24)", d.x.argument(1, 0, 24), SignalBook.NONE);
+        d.due("entry(1, 0, 4, 0)", d.x.entry(1, 0, 4, 0), SignalBook.NONE);
+        d.due("entry(1, 0, 3, 12)", d.x.entry(1, 0, 3, 12), SignalBook.NONE);
+        d.due("holder(1, 0, 4)", d.x.holder(1, 0, 4), SignalBook.NONE);
+        d.due("branch(1, 0, 3, 0)", d.x.branch(1, 0, 3, 0), SignalBook.NONE);
+        d.due("body(1, 0, 0, 4)", d.x.body(1, 0, 0, 4), SignalBook.NONE);
+        d.due("act(1, 0, 0, 4)", d.x.act(1, 0, 0, 4), SignalBook.NONE);
+    }
+
+    private static void longTexts() {
+        Desk d = new Desk("long texts");
+        for (int b = 0; b < 10; b++) {
+            d.faultAtMark("enum A{a(" + "x+".repeat(1493) + "|);}", 2);
+            d.told("enum A{a(" + b + "+1".repeat(1493) + ");}", b);
+        }
+        for (int b = 0; b < 10; b++) {
+            d.gave("argument", d.x.argument(b, 0, 0), b + 1493);
+        }
     }
 
     private static void nesting() {
