@@ -56,6 +56,12 @@ public final class TapeTest {
         d.due("book()", d.x.book(), -10 - 3000);
         d.due("wrong()", d.x.wrong(), 2);
         d.due("feed(1)", d.x.feed(' ', 1), 1);
+        d.x.cut(0);
+        d.fault(";".repeat(3000), 2, 0);
+        d.fault("?".repeat(3000), 1, 0);
+        d.told("enum A{a;}", 0);
+        d.feed(";".repeat(3000));
+        d.due("encode(0)", d.x.encode(0), -10);
     }
 
     private static void cutting() {
