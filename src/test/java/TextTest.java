@@ -1,5 +1,3 @@
-import java.util.function.IntFunction;
-
 /** Promises 4 to 7, 9, 10: book, wrong, told, about, letter, body; TOKENS, the text of a BOOK, FAULTS. */
 public final class TextTest {
     public static void main(String[] args) {
@@ -169,33 +167,26 @@ public final class TextTest {
         d.told("enum A{a(B.b+h+B.k+B.t[u[0]]);table u=[1];holder h=1;}enum B{b;table t=[1];holder k=1;}", 0);
     }
 
-    private static String row(int n, String between, IntFunction<String> part) {
-        StringBuilder all = new StringBuilder();
-        for (int k = 0; k < n; k++) {
-            all.append(k == 0 ? "" : between).append(part.apply(k));
-        }
-        return all.toString();
-    }
-
     private static void tooMuch() {
         Desk d = new Desk("too much");
-        d.faultAtMark(row(12, "", e -> "enum E" + e + "{a;}") + "|enum E0", 5);
-        d.faultAtMark(row(12, "", e -> "enum E" + e + "{a;}") + "|E0", 2);
-        d.faultAtMark("enum A{" + row(24, ",", i -> "c" + i) + ",|c24;}", 5);
-        d.faultAtMark("enum A{" + row(24, ",", i -> "c" + i) + ",|c7;}", 3);
-        d.faultAtMark("enum A{" + row(24, ",", i -> "c" + i) + ",|7;}", 2);
-        d.faultAtMark("enum A{" + row(24, ",", i -> "c" + i) + ",|7c;}", 1);
-        d.faultAtMark("enum A{a;" + row(4, "", t -> "table t" + t + "=[1];") + "|table a=[1];}", 5);
-        d.faultAtMark("enum A{a;" + row(3, "", c -> "check 1;") + "|check 1;}", 5);
-        d.faultAtMark("enum A{a;" + row(4, "", h -> "holder h" + h + "=1;") + "|holder a=1;}", 5);
-        d.faultAtMark("enum A{a;" + row(3, "", s -> "switch s" + s + "{else:1;}") + "|switch a{else:1;}}", 5);
-        String constants = row(13, ",", i -> "c" + i);
-        d.faultAtMark("enum A{" + constants + ";switch s{" + row(12, "", i -> "case c" + i + ":1;") + "|case c0", 5);
-        d.faultAtMark("enum A{a{" + row(4, "", i -> "act a" + i + "=1;") + "act |a4=1;};}", 5);
-        d.faultAtMark("enum A{a{" + row(4, "", i -> "act a" + i + "=1;") + "act |a3=1;};}", 3);
-        d.faultAtMark("enum A{a;" + row(4, "", i -> "act a" + i + "=1;") + "}enum B{b{act |b=1;};}", 5);
-        d.faultAtMark("enum A{a;" + row(4, "", i -> "act a" + i + "=1;") + "}enum B{b{act |1=1;};}", 2);
-        String twelve = "enum A{a;table t=[" + row(12, ",", k -> "1");
+        d.faultAtMark(Desk.row(12, "", e -> "enum E" + e + "{a;}") + "|enum E0", 5);
+        d.faultAtMark(Desk.row(12, "", e -> "enum E" + e + "{a;}") + "|E0", 2);
+        d.faultAtMark("enum A{" + Desk.row(24, ",", i -> "c" + i) + ",|c24;}", 5);
+        d.faultAtMark("enum A{" + Desk.row(24, ",", i -> "c" + i) + ",|c7;}", 3);
+        d.faultAtMark("enum A{" + Desk.row(24, ",", i -> "c" + i) + ",|7;}", 2);
+        d.faultAtMark("enum A{" + Desk.row(24, ",", i -> "c" + i) + ",|7c;}", 1);
+        d.faultAtMark("enum A{a;" + Desk.row(4, "", t -> "table t" + t + "=[1];") + "|table a=[1];}", 5);
+        d.faultAtMark("enum A{a;" + Desk.row(3, "", c -> "check 1;") + "|check 1;}", 5);
+        d.faultAtMark("enum A{a;" + Desk.row(4, "", h -> "holder h" + h + "=1;") + "|holder a=1;}", 5);
+        d.faultAtMark("enum A{a;" + Desk.row(3, "", s -> "switch s" + s + "{else:1;}") + "|switch a{else:1;}}", 5);
+        String constants = Desk.row(13, ",", i -> "c" + i);
+        String twelveCases = Desk.row(12, "", i -> "case c" + i + ":1;");
+        d.faultAtMark("enum A{" + constants + ";switch s{" + twelveCases + "|case c0", 5);
+        d.faultAtMark("enum A{a{" + Desk.row(4, "", i -> "act a" + i + "=1;") + "act |a4=1;};}", 5);
+        d.faultAtMark("enum A{a{" + Desk.row(4, "", i -> "act a" + i + "=1;") + "act |a3=1;};}", 3);
+        d.faultAtMark("enum A{a;" + Desk.row(4, "", i -> "act a" + i + "=1;") + "}enum B{b{act |b=1;};}", 5);
+        d.faultAtMark("enum A{a;" + Desk.row(4, "", i -> "act a" + i + "=1;") + "}enum B{b{act |1=1;};}", 2);
+        String twelve = "enum A{a;table t=[" + Desk.row(12, ",", k -> "1");
         for (String first : new String[] {"1", "-1", "(1)", "a", "A.a", "size", "b", "-(", "t[0]"}) {
             d.faultAtMark(twelve + ",|" + first + "];}", 5);
         }
@@ -207,12 +198,14 @@ public final class TextTest {
 
     private static void asMuchAsMayBe() {
         Desk d = new Desk("as much as may be");
-        d.told(row(12, "\n", e -> "enum E" + e + "{a;}"), 0);
+        d.told(Desk.row(12, "\n", e -> "enum E" + e + "{a;}"), 0);
         d.due("told", d.x.told(0, 0), 12);
-        String text = "enum A{" + row(24, ",", i -> "c" + i) + ";" + row(4, "", i -> "act a" + i + "=1;")
-            + row(4, "", t -> "table t" + t + "=[" + row(12, ",", k -> "1") + "];") + row(3, "", c -> "check 1;")
-            + row(4, "", h -> "holder h" + h + "=1;")
-            + row(3, "", s -> "switch s" + s + "{" + row(12, "", i -> "case c" + i + ":1;") + "else:1;}") + "}";
+        String text = "enum A{" + Desk.row(24, ",", i -> "c" + i) + ";" + Desk.row(4, "", i -> "act a" + i + "=1;")
+            + Desk.row(4, "", t -> "table t" + t + "=[" + Desk.row(12, ",", k -> "1") + "];")
+            + Desk.row(3, "", c -> "check 1;")
+            + Desk.row(4, "", h -> "holder h" + h + "=1;")
+            + Desk.row(3, "", s -> "switch s" + s + "{" + Desk.row(12, "", i -> "case c" + i + ":1;") + "else:1;}")
+            + "}";
         d.told(text, 1);
         int[] counts = {24, 4, 3, 4, 3};
         for (int what = 0; what < 5; what++) {

@@ -1,5 +1,9 @@
+import java.util.function.IntFunction;
+import java.util.function.IntUnaryOperator;
+
 /** A SignalBook under test: tells texts to it, and counts the answers that are not the due ones. */
 final class Desk {
+    private static final int MOST_LINES = 100;
     private static int wrong = 0;
     private static int checked = 0;
     private final String run;
@@ -9,11 +13,21 @@ final class Desk {
         this.run = run;
     }
 
+    /**
+     * A run about one sentence of the document, in its own words: of Promise n, or (0) of what stands ahead of
+     * them all. SentencesTest looks these up, and wants each sentence to be here.
+     */
+    static Desk on(int promise, String sentence) {
+        return new Desk((promise == 0 ? "Terms" : "Promise " + promise) + ", " + sentence);
+    }
+
     void due(String call, long got, long want) {
         checked++;
         if (got != want) {
             wrong++;
-            System.out.println(run + ": " + call + " answered " + got + ", due is " + want);
+            if (wrong <= MOST_LINES) {
+                System.out.println(run + ": " + call + " answered " + got + ", due is " + want);
+            }
         }
     }
 
@@ -87,6 +101,26 @@ final class Desk {
             due("seen(" + i + ", 1)", x.seen(b, i, 1), byAndOf[2 * i + 1]);
         }
         due("seen() behind the last", x.seen(b, count, 0), SignalBook.NONE);
+    }
+
+    /** Each of these numbers makes the call answer NONE. */
+    void none(String call, IntUnaryOperator asked, int... wrongOnes) {
+        for (int n : wrongOnes) {
+            due(call + " of " + n, asked.applyAsInt(n), SignalBook.NONE);
+        }
+    }
+
+    /** Numbers beside 0 .. count - 1: the nearest, the farthest, and some that a mask or a row's end could let in. */
+    static int[] beside(int count) {
+        return new int[] {-1, -2, Integer.MIN_VALUE, count, count + 1, count + 32, 1 << 24, Integer.MAX_VALUE};
+    }
+
+    static String row(int n, String between, IntFunction<String> part) {
+        StringBuilder all = new StringBuilder();
+        for (int k = 0; k < n; k++) {
+            all.append(k == 0 ? "" : between).append(part.apply(k));
+        }
+        return all.toString();
     }
 
     static void end() {
