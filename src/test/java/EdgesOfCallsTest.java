@@ -419,6 +419,9 @@ public final class EdgesOfCallsTest {
         d.causes(2, 1);
         d.due("NONE of a BAD one", d.x.entry(0, 1, 0, 1), NONE);
         d.due("out() stays", d.x.out(), -12);
+        d.told("enum A{a;" + Desk.row(4, "", t -> "table t" + t + "=[" + t + "];") + "}", 1);
+        d.none("entry(1, 0, t, 0)", t -> d.x.entry(1, 0, t, 0), Desk.beside(4));
+        d.gave("the last table", d.x.entry(1, 0, 3, 0), 3);
     }
 
     private static void holder() {

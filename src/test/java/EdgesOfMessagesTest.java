@@ -144,6 +144,10 @@ public final class EdgesOfMessagesTest {
         d.due("none of these is a MESSAGE", d.x.signal(0, 0, 3), NONE);
         encoded(d, "a ".repeat(60) + "5 \n", 0);
         d.due("the sixtieth's ADDED", d.x.signal(0, 59, 2), 5);
+        // nothing of a refused text is in the next one
+        refused(d, "b 7 ab 8 b 9 |9");
+        encoded(d, "b a", 1);
+        signals(d, 1, 0, 1, 0, 0, 0, 0, 0);
     }
 
     private static void encodeNone() {

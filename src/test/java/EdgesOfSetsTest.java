@@ -82,6 +82,8 @@ public final class EdgesOfSetsTest {
         d.due("FULL is told ahead of FAILED", d.x.set(0, 2), FULL);
         d.due("FULL", d.x.set(0, 1), FULL);
         d.due("and then nothing is USED", d.x.state(0, 1), 0);
+        d.none("add(set, 0)", set -> d.x.add(set, 0), Desk.beside(40));
+        d.none("member(set, -1)", set -> d.x.member(set, -1), Desk.beside(40));
     }
 
     private static void add() {
@@ -247,6 +249,8 @@ public final class EdgesOfSetsTest {
         d.due("FULL is told ahead of FAILED", d.x.map(0, 2), FULL);
         d.due("FULL", d.x.map(0, 1), FULL);
         d.due("and then nothing is USED", d.x.state(0, 1), 0);
+        d.none("put(map, 0, 1)", map -> d.x.put(map, 0, 1), Desk.beside(10));
+        d.none("get(map, 0)", map -> d.x.get(map, 0), Desk.beside(10));
     }
 
     private static void put() {

@@ -502,5 +502,13 @@ public final class EdgesOfStartsTest {
         d.starts(0, 0, 1, 2, 104);
         d.seen(0, 1, 1);
         d.causes(2, 1);
+        // nothing is left of the numbers that an expr had come to
+        d.x = new SignalBook();
+        d.told("enum A{a;act go=" + "1+2*(".repeat(12) + "1/0" + ")".repeat(12) + ";act to=" + "1+2*(".repeat(12) + "0"
+            + ")".repeat(12) + ";}", 0);
+        for (int n = 0; n < 300; n++) {
+            d.due("go", d.x.act(0, 0, 0, 0), FAILED);
+        }
+        d.gave("to", d.x.act(0, 0, 0, 1), 4095);
     }
 }

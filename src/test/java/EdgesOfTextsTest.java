@@ -42,8 +42,10 @@ public final class EdgesOfTextsTest {
         Desk d = Desk.on(0, "THE TAPE has at most 3000 bytes.");
         String text = "enum A{a(1" + "+1".repeat(1493) + "); }";
         d.due("bytes of the text", text.length(), 3000);
-        d.told(text, 0);
-        d.gave("the last byte was read", d.x.argument(0, 0, 0), 1494);
+        for (int b = 0; b < 9; b++) {
+            d.told(text, b);
+            d.gave("all of it was read", d.x.argument(b, 0, 0), 1494);
+        }
         d.feed(" ".repeat(2999));
         d.due("two bytes more than 2999", d.x.feed(0, 2), SignalBook.FULL);
         d.due("one byte more than 2999", d.x.feed(0, 1), 3000);
@@ -307,6 +309,16 @@ public final class EdgesOfTextsTest {
                 }
             }
         }
+        // what may stand in one expr may not for that in the next one
+        String bodies = "enum A{a{act go=value+ord+above;},b(ord);act go=value+ord;";
+        for (String word : new String[] {"above", "value", "ord"}) {
+            for (String next : new String[] {"table t=[%];", "check %;", "holder h=%;", "switch s{else:%;}"}) {
+                d.faultAtMark(bodies + next.replace("%", "|" + word) + "}", 2);
+            }
+        }
+        d.faultAtMark(bodies.replace("b(ord)", "b(|value)") + "}", 2);
+        d.faultAtMark(bodies.replace("b(ord)", "b(|above)") + "}", 2);
+        d.faultAtMark(bodies + "act to=|above;}", 2);
     }
 
     private static void limits() {
@@ -486,6 +498,8 @@ public final class EdgesOfTextsTest {
         d.faultAtMark("enum A{a;switch s{" + Desk.row(12, "", k -> "case c" + k + ":1;") + "|case", 5);
         d.faultAtMark("enum A{" + Desk.row(24, ",", i -> "c" + i) + ",|x", 5);
         d.faultAtMark("enum A{" + Desk.row(4, ",", i -> "c" + i + "{act a" + i + "=1;}") + ";act |x", 5);
+        d.faultAtMark("enum A{a{" + Desk.row(4, "", k -> "act a" + k + "=1;") + "act |x", 5);
+        d.faultAtMark("enum A{a{" + Desk.row(4, "", k -> "act a" + k + "=1;") + "act |a0", 3);
         for (String first : new String[] {"1", "-", "(", "size", "x", "A", "t[0]", "(1)", "-1"}) {
             d.faultAtMark("enum A{a;table t=[" + Desk.row(12, ",", k -> "(1)") + ",|" + first, 5);
         }

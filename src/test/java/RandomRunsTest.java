@@ -1,14 +1,20 @@
+import java.util.Arrays;
 import java.util.Random;
+import java.util.Set;
+import java.util.TreeSet;
 
 /** All promises: random runs of calls, each answer held against the model's. */
 public final class RandomRunsTest {
     private static final int RUNS = 6000;
+    private static final Set<String> FILLED = Set.of("book", "set", "join", "map", "encode");
     private static int wrong;
     private static int told;
     private static int calls;
     private static final int[] faults = new int[6];
     private static final int[] causes = new int[7];
     private static int seen;
+    /** The acts that were met with FULL. */
+    private static final Set<String> full = new TreeSet<>();
 
     private final Random random;
     private final SignalBook x = new SignalBook();
@@ -24,6 +30,9 @@ public final class RandomRunsTest {
     private int check(String call, int got, int want) {
         calls++;
         log.append(call).append(" = ").append(got).append('\n');
+        if (want == SignalBook.FULL && FILLED.contains(call.split(" ")[0])) {
+            full.add(call.split(" ")[0]);
+        }
         if (got != want && !failed) {
             failed = true;
             wrong++;
@@ -143,11 +152,11 @@ public final class RandomRunsTest {
 
     private void run() {
         Author author = new Author(random);
-        int texts = 1 + random.nextInt(random.nextInt(6) == 0 ? 12 : 2);
+        int texts = 1 + random.nextInt(random.nextInt(10) == 0 ? 28 : 2);
         for (int n = 0; n < texts; n++) {
             check("cut", x.cut(0), model.cut(0));
             book(author);
-            for (int k = random.nextInt(60); k > 0 && !failed; k--) {
+            for (int k = random.nextInt(random.nextInt(10) == 0 ? 400 : 60); k > 0 && !failed; k--) {
                 call(author);
             }
             int item = item();
@@ -158,6 +167,18 @@ public final class RandomRunsTest {
         }
     }
 
+    /** Whether the runs met each kind of FAULT, CAUSE and FULL, without which they would prove little. */
+    private static boolean metAll() {
+        boolean all = full.equals(FILLED);
+        for (int kind = 1; kind <= 6; kind++) {
+            all = all && causes[kind] > 0 && (kind > 5 || faults[kind] > 0);
+        }
+        if (!all) {
+            System.out.println("the runs did not meet all there is");
+        }
+        return all;
+    }
+
     public static void main(String[] args) {
         long first = args.length > 0 ? Long.parseLong(args[0]) : 1;
         int runs = args.length > 1 ? Integer.parseInt(args[1]) : RUNS;
@@ -165,9 +186,9 @@ public final class RandomRunsTest {
             new RandomRunsTest(seed).run();
         }
         System.out.println(runs + " runs, " + calls + " calls, " + told + " books, FAULTS "
-            + java.util.Arrays.toString(faults) + ", CAUSES " + java.util.Arrays.toString(causes) + ", SEEN " + seen
+            + Arrays.toString(faults) + ", CAUSES " + Arrays.toString(causes) + ", SEEN " + seen + ", FULL " + full
             + ", answers that are not as due: " + wrong);
-        if (wrong != 0) {
+        if (wrong != 0 || runs == RUNS && !metAll()) {
             System.exit(1);
         }
     }

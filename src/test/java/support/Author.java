@@ -16,6 +16,8 @@ final class Author {
     private int[] holders;
     private int acts;
     private int wildness;
+    /** Each enum reads the next one, so that as many ITEMS as may be, or more, are UNDER WAY at once. */
+    private boolean chained;
 
     Author(Random random) {
         this.random = random;
@@ -40,16 +42,20 @@ final class Author {
 
     String writeBook() {
         tokens.clear();
+        if (once(25)) {
+            return writeSoup();
+        }
         wildness = once(4) ? 25 : 100000;
-        enums = some(1, 5, 12);
+        chained = once(8);
+        enums = chained ? 9 + upTo(3) : some(1, 5, 12);
         acts = some(0, 3, 4);
         constants = new int[enums];
         entries = new int[enums][];
         holders = new int[enums];
         for (int e = 0; e < enums; e++) {
-            constants[e] = some(1, 4, 24);
-            entries[e] = new int[some(0, 2, 4)];
-            holders[e] = some(0, 2, 4);
+            constants[e] = chained ? 1 + upTo(1) : some(1, 4, 24);
+            entries[e] = new int[chained ? upTo(1) : some(0, 2, 4)];
+            holders[e] = chained ? 1 : some(0, 2, 4);
             for (int t = 0; t < entries[e].length; t++) {
                 entries[e][t] = some(1, 4, 12);
             }
@@ -59,6 +65,17 @@ final class Author {
         }
         if (once(3)) {
             spoil();
+        }
+        return joined();
+    }
+
+    /** TOKENS of all sorts behind one another. */
+    private String writeSoup() {
+        if (once(2)) {
+            say("enum", "A", "{", "a");
+        }
+        for (int n = upTo(30); n >= 0; n--) {
+            say(WORDS[random.nextInt(WORDS.length)]);
         }
         return joined();
     }
@@ -97,7 +114,9 @@ final class Author {
         for (int i = 0; i < constants[e]; i++) {
             say(i == 0 ? "" : ",");
             say(constantName(e, i));
-            if (once(2)) {
+            if (chained && i == 0) {
+                writeLink(e, (e + 1) % enums);
+            } else if (once(2)) {
                 say("(");
                 expr(e, 2, "ord");
                 say(")");
@@ -112,6 +131,15 @@ final class Author {
         tokens.removeIf(String::isEmpty);
         writeMembers(e);
         say("}");
+    }
+
+    private void writeLink(int e, int next) {
+        say("(", enumName(next), ".", once(4) ? "h0" : constantName(next, 0));
+        if (once(2)) {
+            say("+");
+            factor(e, 0, "ord");
+        }
+        say(")");
     }
 
     private void bodies(int e, String words) {
@@ -146,6 +174,9 @@ final class Author {
         }
         for (int h = 0; h < holders[e]; h++) {
             say("holder", "h" + h, "=");
+            if (chained) {
+                say(constantName(e, 0), "+");
+            }
             expr(e, 2, "");
             say(";");
         }

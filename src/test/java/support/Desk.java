@@ -3,7 +3,7 @@ import java.util.function.IntUnaryOperator;
 
 /** A SignalBook under test: tells texts to it, and counts the answers that are not the due ones. */
 final class Desk {
-    private static final int MOST_LINES = 100;
+    private static final int MOST_LINES = 20;
     private static int wrong = 0;
     private static int checked = 0;
     private final String run;
