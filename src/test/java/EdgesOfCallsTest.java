@@ -14,21 +14,35 @@ public final class EdgesOfCallsTest {
         bookStartsNothing();
         wrong();
         told();
+        toldNone();
         about();
+        aboutNone();
         state();
+        stateNone();
         letter();
+        letterNone();
         body();
+        bodyNone();
         use();
+        useRefused();
         argument();
+        argumentUses();
+        argumentRefused();
         act();
+        actRefused();
         entry();
+        entryRefused();
         holder();
+        holderRefused();
         branch();
+        branchRefused();
         out();
         cause();
         causeNone();
         start();
+        startNone();
         seen();
+        seenNone();
         Desk.end();
     }
 
@@ -223,10 +237,9 @@ public final class EdgesOfCallsTest {
 
     private static void told() {
         Desk d = Desk.on(6, "Of a BOOK: what 0 how many enums, 1 ACTS, 2 STARTS that began (not those that FAILED"
-            + " with 6), 3 SEEN. NONE (another what, too).");
-        String chain = Desk.row(12, "", e -> "enum E" + e + "{a(" + (e < 11 ? "E" + (e + 1) + ".a" : "a+a+a+h")
-            + ");holder h=1;act a" + e % 4 + "=1;}");
-        d.told(chain, 0);
+            + " with 6), 3 SEEN.");
+        d.told(Desk.row(12, "", e -> "enum E" + e + "{a(" + (e < 11 ? "E" + (e + 1) + ".a" : "a+a+a+h")
+            + ");holder h=1;act a" + e % 4 + "=1;}"), 0);
         d.told("enum A{a;}", 1);
         int[][] before = {{12, 4, 0, 0}, {1, 0, 0, 0}};
         for (int what = 0; what < 4; what++) {
@@ -240,15 +253,23 @@ public final class EdgesOfCallsTest {
         d.gave("it STARTS later", d.x.holder(0, 11, 0), 1);
         d.due("STARTS", d.x.told(0, 2), 13);
         d.due("of the other BOOK", d.x.told(1, 2), 0);
+    }
+
+    private static void toldNone() {
+        Desk d = Desk.on(6, "NONE (another what, too).");
+        d.told("enum A{a;act go=1;}", 0);
+        d.told("enum A{a;}", 1);
         for (int what = 0; what < 4; what++) {
             int asked = what;
             d.none("told(b, " + what + ")", b -> d.x.told(b, asked), Desk.beside(2));
         }
         d.none("told(0, what)", what -> d.x.told(0, what), Desk.beside(4));
+        d.none("told(1, what)", what -> d.x.told(1, what), Desk.beside(4));
+        d.none("told(2, what)", what -> d.x.told(2, what), Desk.beside(4));
     }
 
     private static void about() {
-        Desk d = Desk.on(7, "Of an enum: what 0 constants, 1 tables, 2 checks, 3 holders, 4 switches. NONE.");
+        Desk d = Desk.on(7, "Of an enum: what 0 constants, 1 tables, 2 checks, 3 holders, 4 switches.");
         d.told("enum A{a;}enum B{a,b;check 1;table t=[1];holder h=1;table u=[1];check 1;check 1;holder i=1;"
             + "switch s{else:1;}table v=[1];holder j=1;holder k=1;table w=[1,2];switch r{else:1;}}", 0);
         int[][] due = {{1, 0, 0, 0, 0}, {2, 4, 3, 4, 2}};
@@ -256,16 +277,23 @@ public final class EdgesOfCallsTest {
             for (int what = 0; what < 5; what++) {
                 d.due("about(0, " + e + ", " + what + ")", d.x.about(0, e, what), due[e][what]);
             }
-            int asked = e;
-            d.none("about(0, " + e + ", what)", what -> d.x.about(0, asked, what), Desk.beside(5));
         }
-        d.none("about(0, e, 0)", e -> d.x.about(0, e, 0), Desk.beside(2));
-        d.none("about(b, 0, 0)", b -> d.x.about(b, 0, 0), Desk.beside(1));
         d.due("nothing is USED", d.x.told(0, 2), 0);
     }
 
+    private static void aboutNone() {
+        Desk d = Desk.on(7, "NONE.");
+        d.told("enum A{a;}enum B{b;}", 0);
+        for (int what = 0; what < 5; what++) {
+            int asked = what;
+            d.none("about(0, e, " + what + ")", e -> d.x.about(0, e, asked), Desk.beside(2));
+            d.none("about(b, 0, " + what + ")", b -> d.x.about(b, 0, asked), Desk.beside(1));
+        }
+        d.none("about(0, 1, what)", what -> d.x.about(0, 1, what), Desk.beside(5));
+    }
+
     private static void state() {
-        Desk d = Desk.on(8, "0: the ITEM is ASLEEP, 1 WELL, 2 BAD. NONE.");
+        Desk d = Desk.on(8, "0: the ITEM is ASLEEP, 1 WELL, 2 BAD.");
         d.told("enum A{a;holder h=1;holder i=1/0;}enum B{b;check 0;}", 0);
         int[] items = {0, 1, 100, 101};
         for (int item : items) {
@@ -279,86 +307,128 @@ public final class EdgesOfCallsTest {
         for (int k = 0; k < 4; k++) {
             d.due("state(0, " + items[k] + ")", d.x.state(0, items[k]), due[k]);
         }
+        d.due("it USES nothing", d.x.told(0, 2), 4);
+    }
+
+    private static void stateNone() {
+        Desk d = Desk.on(8, "NONE.");
+        d.told("enum A{a;holder h=1;holder i=1/0;}enum B{b;check 0;}", 0);
         d.none("state(0, item)", item -> d.x.state(0, item), -1, -2, 2, 11, 12, 96, 99, 102, 103, 104, 105, 147, 148,
             Integer.MIN_VALUE, Integer.MAX_VALUE);
         d.none("state(b, 0)", b -> d.x.state(b, 0), Desk.beside(1));
         d.none("state(b, 100)", b -> d.x.state(b, 100), Desk.beside(1));
-        d.due("it USES nothing", d.x.told(0, 2), 4);
     }
 
     private static void letter() {
-        Desk d = Desk.on(9, "Byte k of the NAME of a constant (i from 0 on), of the enum (i = -1). NONE.");
+        Desk d = Desk.on(9, "Byte k of the NAME of a constant (i from 0 on), of the enum (i = -1).");
         d.told("enum zZ09azAZ19{a,abcdefghij,Z9;}enum B{b;}", 0);
         String[] names = {"zZ09azAZ19", "a", "abcdefghij", "Z9"};
         for (int i = -1; i < 3; i++) {
-            String name = names[i + 1];
-            for (int k = 0; k < name.length(); k++) {
-                d.due("letter(0, 0, " + i + ", " + k + ")", d.x.letter(0, 0, i, k), name.charAt(k));
+            for (int k = 0; k < names[i + 1].length(); k++) {
+                d.due("letter(0, 0, " + i + ", " + k + ")", d.x.letter(0, 0, i, k), names[i + 1].charAt(k));
             }
+        }
+        d.due("letter(0, 1, -1, 0)", d.x.letter(0, 1, -1, 0), 'B');
+        d.due("letter(0, 1, 0, 0)", d.x.letter(0, 1, 0, 0), 'b');
+        d.due("nothing is USED", d.x.told(0, 2), 0);
+    }
+
+    private static void letterNone() {
+        Desk d = Desk.on(9, "NONE.");
+        d.told("enum zZ09azAZ19{a,abcdefghij,Z9;}enum B{b;}", 0);
+        int[] lengths = {10, 1, 10, 2};
+        for (int i = -1; i < 3; i++) {
             int asked = i;
-            d.none("letter(0, 0, " + i + ", k)", k -> d.x.letter(0, 0, asked, k), Desk.beside(name.length()));
+            d.none("letter(0, 0, " + i + ", k)", k -> d.x.letter(0, 0, asked, k), Desk.beside(lengths[i + 1]));
         }
         d.none("letter(0, 0, i, 0)", i -> d.x.letter(0, 0, i, 0), -2, -3, Integer.MIN_VALUE, 3, 4, 24,
             Integer.MAX_VALUE);
         d.none("letter(0, e, -1, 0)", e -> d.x.letter(0, e, -1, 0), Desk.beside(2));
         d.none("letter(b, 0, -1, 0)", b -> d.x.letter(b, 0, -1, 0), Desk.beside(1));
-        d.due("letter(0, 1, 0, 0)", d.x.letter(0, 1, 0, 0), 'b');
-        d.due("nothing is USED", d.x.told(0, 2), 0);
     }
 
     private static void body() {
-        Desk d = Desk.on(10, "Whether a constant has a body of its own for an act (i = -1: the enum): 1, 0. NONE (an"
-            + " act that there is not, too).");
+        Desk d = Desk.on(10, "Whether a constant has a body of its own for an act (i = -1: the enum): 1, 0.");
         d.told("enum A{a{act go=1;},b,c{act to=1;act on=1;};act on=1;}enum B{b;}", 0);
         int[][] due = {{0, 0, 1}, {1, 0, 0}, {0, 0, 0}, {0, 1, 1}};
         for (int i = -1; i < 3; i++) {
             for (int act = 0; act < 3; act++) {
                 d.due("body(0, 0, " + i + ", " + act + ")", d.x.body(0, 0, i, act), due[i + 1][act]);
             }
-            int asked = i;
-            d.none("body(0, 0, " + i + ", act)", act -> d.x.body(0, 0, asked, act), Desk.beside(3));
         }
         d.due("an enum without bodies", d.x.body(0, 1, -1, 2), 0);
         d.due("its constant", d.x.body(0, 1, 0, 2), 0);
+        d.due("nothing is USED", d.x.told(0, 2), 0);
+    }
+
+    private static void bodyNone() {
+        Desk d = Desk.on(10, "NONE (an act that there is not, too).");
+        d.told("enum A{a{act go=1;},b,c{act to=1;act on=1;};act on=1;}enum B{b;}", 0);
+        for (int i = -1; i < 3; i++) {
+            int asked = i;
+            d.none("body(0, 0, " + i + ", act)", act -> d.x.body(0, 0, asked, act), Desk.beside(3));
+        }
         d.none("body(0, 0, i, 0)", i -> d.x.body(0, 0, i, 0), -2, -3, Integer.MIN_VALUE, 3, 4, 24, Integer.MAX_VALUE);
         d.none("body(0, e, -1, 0)", e -> d.x.body(0, e, -1, 0), Desk.beside(2));
         d.none("body(b, 0, -1, 0)", b -> d.x.body(b, 0, -1, 0), Desk.beside(1));
         d.told("enum A{a;}", 1);
         d.none("body(1, 0, 0, act) of a BOOK without ACTS", act -> d.x.body(1, 0, 0, act), -1, 0, 1, 2, 3, 4);
-        d.due("nothing is USED", d.x.told(0, 2), 0);
+        d.none("body(1, 0, -1, act) of a BOOK without ACTS", act -> d.x.body(1, 0, -1, act), -1, 0, 1, 2, 3, 4);
     }
 
     private static void use() {
-        Desk d = Desk.on(11, "The enum is USED: 0. NONE; FAILED.");
+        Desk d = Desk.on(11, "The enum is USED: 0.");
+        d.told("enum A{a(5);}enum B{b(A.a);}", 0);
+        d.due("it STARTS", d.x.use(0, 1), 0);
+        d.starts(0, 1, 0);
+        d.due("it is WELL", d.x.use(0, 1), 0);
+        d.due("it is WELL by another one", d.x.use(0, 0), 0);
+        d.starts(0, 1, 0);
+        d.due("out() stays", d.x.out(), 0);
+    }
+
+    private static void useRefused() {
+        Desk d = Desk.on(11, "NONE; FAILED.");
         d.told("enum A{a(5);}enum B{b;check 0;}enum C{c(B.b);}", 0);
         d.none("use(0, e)", e -> d.x.use(0, e), Desk.beside(3));
         d.none("use(b, 0)", b -> d.x.use(b, 0), Desk.beside(1));
         d.starts(0);
-        d.due("use(0, 0)", d.x.use(0, 0), 0);
-        d.due("use(0, 0)", d.x.use(0, 0), 0);
-        d.due("out() stays", d.x.out(), 0);
         d.due("use(0, 2)", d.x.use(0, 2), FAILED);
         d.causes(1, 2, 1, 1, 3, NONE);
         d.due("use(0, 1)", d.x.use(0, 1), FAILED);
         d.causes(2, 1);
         d.due("use(0, 0)", d.x.use(0, 0), 0);
-        d.causes(2, 1);
         d.none("use(0, e)", e -> d.x.use(0, e), 3, 100);
-        d.starts(0, 0, 2, 1);
+        d.causes(2, 1);
+        d.starts(0, 2, 1, 0);
     }
 
     private static void argument() {
-        Desk d = Desk.on(12, "The ARGUMENT of a constant comes to out(): 0. The enum is USED. NONE; FAILED.");
-        d.told("enum A{a(-5),b,c(1-1),d(65536*32768);}enum B{b(3),c(1/0);}", 0);
-        d.none("argument(0, 0, i)", i -> d.x.argument(0, 0, i), Desk.beside(4));
-        d.none("argument(0, e, 0)", e -> d.x.argument(0, e, 0), Desk.beside(2));
-        d.none("argument(b, 0, 0)", b -> d.x.argument(b, 0, 0), Desk.beside(1));
-        d.starts(0);
+        Desk d = Desk.on(12, "The ARGUMENT of a constant comes to out(): 0.");
+        d.told("enum A{a(-5),b,c(1-1),d(65536*32768);}", 0);
         d.gave("a", d.x.argument(0, 0, 0), -5);
-        d.starts(0, 0);
         d.gave("b has none", d.x.argument(0, 0, 1), 0);
         d.gave("d", d.x.argument(0, 0, 3), Integer.MIN_VALUE);
         d.gave("c", d.x.argument(0, 0, 2), 0);
+        d.gave("a", d.x.argument(0, 0, 0), -5);
+    }
+
+    private static void argumentUses() {
+        Desk d = Desk.on(12, "The enum is USED.");
+        d.told("enum A{a,b(B.b);}enum B{b(7);}", 0);
+        d.gave("of a constant without one", d.x.argument(0, 0, 0), 0);
+        d.starts(0, 0, 1);
+        d.gave("it is WELL", d.x.argument(0, 1, 0), 7);
+        d.starts(0, 0, 1);
+    }
+
+    private static void argumentRefused() {
+        Desk d = Desk.on(12, "NONE; FAILED.");
+        d.told("enum A{a(-5),b,c;}enum B{b(3),c(1/0);}", 0);
+        d.none("argument(0, 0, i)", i -> d.x.argument(0, 0, i), Desk.beside(3));
+        d.none("argument(0, e, 0)", e -> d.x.argument(0, e, 0), Desk.beside(2));
+        d.none("argument(b, 0, 0)", b -> d.x.argument(b, 0, 0), Desk.beside(1));
+        d.starts(0);
         d.gave("a", d.x.argument(0, 0, 0), -5);
         d.due("a constant that was MADE", d.x.argument(0, 1, 0), FAILED);
         d.causes(1, 1, 4, NONE);
@@ -369,36 +439,61 @@ public final class EdgesOfCallsTest {
     }
 
     private static void act() {
-        Desk d = Desk.on(13, "The enum is USED; what its body for an ACT gives of a constant (the constant's own,"
-            + " else the enum's; FAILS with 5 without one) comes to out(): 0. NONE; FAILED.");
-        d.told("enum A{a(3){act go=100+ord;act to=7;},b(4);act go=value;act on=1/value;}enum B{b;check 0;act go=1;}"
-            + "enum C{c;act on=B.b;}", 0);
-        d.none("act(0, 0, i, 0)", i -> d.x.act(0, 0, i, 0), Desk.beside(2));
-        d.none("act(0, 0, 0, act)", act -> d.x.act(0, 0, 0, act), Desk.beside(3));
-        d.none("act(0, e, 0, 0)", e -> d.x.act(0, e, 0, 0), Desk.beside(3));
-        d.none("act(b, 0, 0, 0)", b -> d.x.act(b, 0, 0, 0), Desk.beside(1));
-        d.starts(0);
+        Desk d = Desk.on(13, "The enum is USED; what its body for an ACT gives of a constant (the constant's own, else"
+            + " the enum's; FAILS with 5 without one) comes to out(): 0.");
+        d.told("enum A{a(3){act go=100+ord;act to=7;},b(4);act go=value;}enum B{b;}", 0);
         d.gave("the constant's own", d.x.act(0, 0, 0, 0), 100);
         d.starts(0, 0);
         d.gave("the enum's", d.x.act(0, 0, 1, 0), 4);
         d.gave("the constant's own, the enum has none", d.x.act(0, 0, 0, 1), 7);
         d.due("neither", d.x.act(0, 0, 1, 1), FAILED);
         d.causes(5, NONE);
+        d.due("out() stays", d.x.out(), 7);
+        d.due("an enum without bodies", d.x.act(0, 1, 0, 0), FAILED);
+        d.causes(5, NONE);
+        d.starts(0, 0, 1);
+        d.due("it is WELL", d.x.state(0, 1), 1);
+    }
+
+    private static void actRefused() {
+        Desk d = Desk.on(13, "NONE; FAILED.");
+        d.told("enum A{a,b;act go=1;act to=1/0;act on=1;}enum B{b;check 0;act go=1;}enum C{c;act on=B.b;}", 0);
+        d.none("act(0, 0, i, 0)", i -> d.x.act(0, 0, i, 0), Desk.beside(2));
+        d.none("act(0, 0, 0, act)", act -> d.x.act(0, 0, 0, act), Desk.beside(3));
+        d.none("act(0, e, 0, 0)", e -> d.x.act(0, e, 0, 0), Desk.beside(3));
+        d.none("act(b, 0, 0, 0)", b -> d.x.act(b, 0, 0, 0), Desk.beside(1));
+        d.starts(0);
+        d.gave("go", d.x.act(0, 0, 0, 0), 1);
+        d.due("the body FAILS", d.x.act(0, 0, 0, 1), FAILED);
+        d.causes(4, NONE);
         d.due("the enum FAILS", d.x.act(0, 1, 0, 0), FAILED);
         d.causes(1, 1, 3, NONE);
         d.due("the enum is BAD, ahead of the body that is missing", d.x.act(0, 1, 0, 1), FAILED);
         d.causes(2, 1);
-        d.due("the body FAILS", d.x.act(0, 2, 0, 2), FAILED);
+        d.due("what the body reads is BAD", d.x.act(0, 2, 0, 2), FAILED);
         d.causes(2, 1);
         d.due("its enum stays WELL", d.x.state(0, 2), 1);
-        d.due("out() stays", d.x.out(), 7);
+        d.due("out() stays", d.x.out(), 1);
         d.told("enum A{a;}", 1);
         d.none("act(1, 0, 0, act) of a BOOK without ACTS", act -> d.x.act(1, 0, 0, act), -1, 0, 1, 3, 4);
     }
 
     private static void entry() {
-        Desk d = Desk.on(14, "The enum is USED; entry k of table t comes to out(): 0. NONE; FAILED.");
-        d.told("enum A{a;table t=[5];table u=[1,2,3,4,5,6,7,8,9,10,11,12*-1];}enum B{b;table t=[1];check 0;}"
+        Desk d = Desk.on(14, "The enum is USED; entry k of table t comes to out(): 0.");
+        d.told("enum A{a;table t=[5];table u=[1,2,3,4,5,6,7,8,9,10,11,12*-1];}", 0);
+        d.gave("the first", d.x.entry(0, 0, 0, 0), 5);
+        d.starts(0, 0);
+        for (int k = 0; k < 11; k++) {
+            d.gave("entry(0, 0, 1, " + k + ")", d.x.entry(0, 0, 1, k), k + 1);
+        }
+        d.gave("the last", d.x.entry(0, 0, 1, 11), -12);
+        d.told("enum A{a;" + Desk.row(4, "", t -> "table t" + t + "=[" + t + "];") + "}", 1);
+        d.gave("the last table", d.x.entry(1, 0, 3, 0), 3);
+    }
+
+    private static void entryRefused() {
+        Desk d = Desk.on(14, "NONE; FAILED.");
+        d.told("enum A{a;table t=[5];table u=[1,2,3,4,5,6,7,8,9,10,11,12];}enum B{b;table t=[1];check 0;}"
             + "enum C{c;}", 0);
         d.none("entry(0, 0, t, 0)", t -> d.x.entry(0, 0, t, 0), Desk.beside(2));
         d.none("entry(0, 0, 0, k)", k -> d.x.entry(0, 0, 0, k), Desk.beside(1));
@@ -407,57 +502,52 @@ public final class EdgesOfCallsTest {
         d.none("entry(0, e, 0, 0)", e -> d.x.entry(0, e, 0, 0), Desk.beside(3));
         d.none("entry(b, 0, 0, 0)", b -> d.x.entry(b, 0, 0, 0), Desk.beside(1));
         d.starts(0);
-        d.gave("the first", d.x.entry(0, 0, 0, 0), 5);
-        d.starts(0, 0);
-        for (int k = 0; k < 11; k++) {
-            d.gave("entry(0, 0, 1, " + k + ")", d.x.entry(0, 0, 1, k), k + 1);
-        }
-        d.gave("the last", d.x.entry(0, 0, 1, 11), -12);
+        d.gave("u[11]", d.x.entry(0, 0, 1, 11), 12);
         d.due("the enum FAILS", d.x.entry(0, 1, 0, 0), FAILED);
         d.causes(1, 1, 3, NONE);
         d.due("the enum is BAD", d.x.entry(0, 1, 0, 0), FAILED);
         d.causes(2, 1);
         d.due("NONE of a BAD one", d.x.entry(0, 1, 0, 1), NONE);
-        d.due("out() stays", d.x.out(), -12);
+        d.due("out() stays", d.x.out(), 12);
         d.told("enum A{a;" + Desk.row(4, "", t -> "table t" + t + "=[" + t + "];") + "}", 1);
         d.none("entry(1, 0, t, 0)", t -> d.x.entry(1, 0, t, 0), Desk.beside(4));
-        d.gave("the last table", d.x.entry(1, 0, 3, 0), 3);
     }
 
     private static void holder() {
-        Desk d = Desk.on(15, "Holder h is USED (its enum is not, by that); its VALUE comes to out(): 0. NONE;"
-            + " FAILED.");
+        Desk d = Desk.on(15, "Holder h is USED (its enum is not, by that); its VALUE comes to out(): 0.");
+        d.told("enum A{a;check 0;holder h=8;holder i=a;holder j=0;holder k=-9;}", 0);
+        d.gave("the last", d.x.holder(0, 0, 3), -9);
+        d.starts(0, 103);
+        d.gave("the third", d.x.holder(0, 0, 2), 0);
+        d.gave("the first", d.x.holder(0, 0, 0), 8);
+        d.due("the enum is ASLEEP", d.x.state(0, 0), 0);
+        d.due("use of the enum", d.x.use(0, 0), FAILED);
+        d.gave("a holder of a BAD enum is not BAD by that", d.x.holder(0, 0, 0), 8);
+        d.starts(0, 103, 102, 100, 0);
+    }
+
+    private static void holderRefused() {
+        Desk d = Desk.on(15, "NONE; FAILED.");
         d.told("enum A{a;check 0;holder h=8;holder i=a;holder j=0;holder k=-9;}enum B{b;}", 0);
         d.none("holder(0, 0, h)", h -> d.x.holder(0, 0, h), Desk.beside(4));
         d.none("holder(0, 1, h)", h -> d.x.holder(0, 1, h), Desk.beside(0));
         d.none("holder(0, e, 0)", e -> d.x.holder(0, e, 0), Desk.beside(2));
         d.none("holder(b, 0, 0)", b -> d.x.holder(b, 0, 0), Desk.beside(1));
         d.starts(0);
-        d.gave("the last", d.x.holder(0, 0, 3), -9);
-        d.starts(0, 103);
-        d.gave("the third", d.x.holder(0, 0, 2), 0);
         d.gave("the first", d.x.holder(0, 0, 0), 8);
-        d.due("the enum is ASLEEP", d.x.state(0, 0), 0);
         d.due("the second reads its enum, which FAILS", d.x.holder(0, 0, 1), FAILED);
         d.causes(1, 101, 1, 0, 3, NONE);
         d.due("it is BAD", d.x.holder(0, 0, 1), FAILED);
         d.causes(2, 101);
-        d.gave("a holder of a BAD enum is not BAD by that", d.x.holder(0, 0, 0), 8);
-        d.starts(0, 103, 102, 100, 101, 0);
+        d.starts(0, 100, 101, 0);
+        d.due("out() stays", d.x.out(), 8);
     }
 
     private static void branch() {
-        Desk d = Desk.on(16, "The enum is USED; switch s: the expr of the case whose NAME is the constant's, else"
-            + " that of else, is worked out, and comes to out(): 0. NONE; FAILED.");
+        Desk d = Desk.on(16, "The enum is USED; switch s: the expr of the case whose NAME is the constant's, else that"
+            + " of else, is worked out, and comes to out(): 0.");
         d.told("enum A{a,b,c;switch s{case c:B.b+30;case a:C.h+10;else:20;}switch r{else:size*7;}"
-            + "switch q{case a:1;case b:1/0;case c:D.d;else:4;}}enum B{b;}enum C{c;holder h=1;}"
-            + "enum D{d;check 0;switch s{case d:1;else:2;}}", 0);
-        d.none("branch(0, 0, s, 0)", s -> d.x.branch(0, 0, s, 0), Desk.beside(3));
-        d.none("branch(0, 0, 0, i)", i -> d.x.branch(0, 0, 0, i), Desk.beside(3));
-        d.none("branch(0, 1, s, 0)", s -> d.x.branch(0, 1, s, 0), Desk.beside(0));
-        d.none("branch(0, e, 0, 0)", e -> d.x.branch(0, e, 0, 0), Desk.beside(4));
-        d.none("branch(b, 0, 0, 0)", b -> d.x.branch(b, 0, 0, 0), Desk.beside(1));
-        d.starts(0);
+            + "switch q{case a:1;case b:1/0;else:1/0;}}enum B{b;}enum C{c;holder h=1;}", 0);
         d.gave("no case of its own", d.x.branch(0, 0, 0, 1), 20);
         d.starts(0, 0);
         d.gave("the second case", d.x.branch(0, 0, 0, 0), 11);
@@ -467,14 +557,32 @@ public final class EdgesOfCallsTest {
         for (int i = 0; i < 3; i++) {
             d.gave("no cases", d.x.branch(0, 0, 1, i), 21);
         }
-        d.due("its expr FAILS", d.x.branch(0, 0, 2, 1), FAILED);
-        d.causes(4, NONE);
-        d.due("what its expr uses FAILS", d.x.branch(0, 0, 2, 2), FAILED);
-        d.causes(1, 3, 3, NONE);
-        d.due("its enum is BAD", d.x.branch(0, 3, 0, 0), FAILED);
-        d.causes(2, 3);
-        d.due("out() stays", d.x.out(), 21);
         d.gave("the others are not worked out", d.x.branch(0, 0, 2, 0), 1);
+        d.told("enum A{" + Desk.row(24, ",", i -> "c" + i) + ";switch s{"
+            + Desk.row(12, "", k -> "case c" + (23 - 2 * k) + ":" + k + ";") + "else:99;}}", 1);
+        for (int i = 0; i < 24; i++) {
+            d.gave("one of twelve cases, or none", d.x.branch(1, 0, 0, i), i % 2 == 0 ? 99 : (23 - i) / 2);
+        }
+    }
+
+    private static void branchRefused() {
+        Desk d = Desk.on(16, "NONE; FAILED.");
+        d.told("enum A{a,b,c;switch s{else:5;}switch r{case b:1/0;case c:B.b;else:4;}switch q{else:1;}}"
+            + "enum B{b;check 0;switch s{case b:1;else:2;}}enum C{c;}", 0);
+        d.none("branch(0, 0, s, 0)", s -> d.x.branch(0, 0, s, 0), Desk.beside(3));
+        d.none("branch(0, 0, 0, i)", i -> d.x.branch(0, 0, 0, i), Desk.beside(3));
+        d.none("branch(0, 2, s, 0)", s -> d.x.branch(0, 2, s, 0), Desk.beside(0));
+        d.none("branch(0, e, 0, 0)", e -> d.x.branch(0, e, 0, 0), Desk.beside(3));
+        d.none("branch(b, 0, 0, 0)", b -> d.x.branch(b, 0, 0, 0), Desk.beside(1));
+        d.starts(0);
+        d.gave("s", d.x.branch(0, 0, 0, 1), 5);
+        d.due("its expr FAILS", d.x.branch(0, 0, 1, 1), FAILED);
+        d.causes(4, NONE);
+        d.due("what its expr reads FAILS", d.x.branch(0, 0, 1, 2), FAILED);
+        d.causes(1, 1, 3, NONE);
+        d.due("its enum is BAD", d.x.branch(0, 1, 0, 0), FAILED);
+        d.causes(2, 1);
+        d.due("out() stays", d.x.out(), 5);
         d.due("A stays WELL", d.x.state(0, 0), 1);
     }
 
@@ -544,27 +652,50 @@ public final class EdgesOfCallsTest {
     }
 
     private static void start() {
-        Desk d = Desk.on(19, "START i of a BOOK, as they began: its ITEM. NONE.");
+        Desk d = Desk.on(19, "START i of a BOOK, as they began: its ITEM.");
         d.told("enum A{a(B.b),b(C.h);}enum B{b(C.h);check 1;}enum C{c(1/0);holder h=D.d;}enum D{d;}", 0);
-        d.none("start(0, i)", i -> d.x.start(0, i), Desk.beside(0));
         d.due("use", d.x.use(0, 0), 0);
         d.starts(0, 0, 1, 108, 3);
         d.due("use", d.x.use(0, 2), FAILED);
         d.due("use", d.x.use(0, 2), FAILED);
         d.starts(0, 0, 1, 108, 3, 2);
-        d.none("start(0, i)", i -> d.x.start(0, i), Desk.beside(5));
+    }
+
+    private static void startNone() {
+        Desk d = Desk.on(19, "NONE.");
+        d.told("enum A{a(B.b);}enum B{b;}", 0);
+        d.none("start(0, i) ahead of all", i -> d.x.start(0, i), Desk.beside(0));
+        d.due("use", d.x.use(0, 0), 0);
+        d.none("start(0, i)", i -> d.x.start(0, i), Desk.beside(2));
         d.none("start(b, 0)", b -> d.x.start(b, 0), Desk.beside(1));
         d.told("enum A{a;}", 1);
         d.none("start(1, i)", i -> d.x.start(1, i), Desk.beside(0));
+        // all that can be
+        d.told(Desk.row(12, "", e -> "enum E" + e + "{a;" + Desk.row(4, "", h -> "holder h" + h + "=a;") + "}"), 2);
+        for (int k = 0; k < 48; k++) {
+            d.gave("holder", d.x.holder(2, k / 4, k % 4), 0);
+        }
+        d.due("the last", d.x.start(2, 59), 147);
+        d.none("start(2, i)", i -> d.x.start(2, i), Desk.beside(60));
     }
 
     private static void seen() {
-        Desk d = Desk.on(20, "SEEN i of a BOOK, from 0 on: what 0 the ITEM UNDER WAY, 1 the ITEM that was read."
-            + " NONE.");
+        Desk d = Desk.on(20, "SEEN i of a BOOK, from 0 on: what 0 the ITEM UNDER WAY, 1 the ITEM that was read.");
         d.told("enum A{a(B.h);}enum B{b;holder h=A.a+B.h;}", 0);
-        d.none("seen(0, i, 0)", i -> d.x.seen(0, i, 0), Desk.beside(0));
         d.gave("h", d.x.argument(0, 0, 0), -1);
         d.seen(0, 104, 0, 104, 104);
+        d.told("enum A{a(a);}", 1);
+        d.seen(1);
+        d.due("use", d.x.use(1, 0), 0);
+        d.seen(1, 0, 0);
+        d.seen(0, 104, 0, 104, 104);
+    }
+
+    private static void seenNone() {
+        Desk d = Desk.on(20, "NONE.");
+        d.told("enum A{a(B.h);}enum B{b;holder h=A.a+B.h;}", 0);
+        d.none("seen(0, i, 0) ahead of all", i -> d.x.seen(0, i, 0), Desk.beside(0));
+        d.gave("h", d.x.argument(0, 0, 0), -1);
         d.none("seen(0, i, 0)", i -> d.x.seen(0, i, 0), Desk.beside(2));
         d.none("seen(0, i, 1)", i -> d.x.seen(0, i, 1), Desk.beside(2));
         d.none("seen(0, 0, what)", what -> d.x.seen(0, 0, what), Desk.beside(2));

@@ -12,6 +12,7 @@ public final class EdgesOfMessagesTest {
         encodeNone();
         encodeStartsNothing();
         signal();
+        signalNone();
         decode();
         decodeNone();
         Desk.end();
@@ -190,10 +191,9 @@ public final class EdgesOfMessagesTest {
 
     private static void signal() {
         Desk d = Desk.on(30, "SIGNAL i of a MESSAGE: what 0 its enum, 1 its ORDINAL, 2 its ADDED, 3 the MESSAGE's"
-            + " BOOK. NONE.");
+            + " BOOK.");
         d.told("enum X{x;}", 0);
         d.told(TEXT, 1);
-        d.none("signal(message, 0, 3) ahead of all", message -> d.x.signal(message, 0, 3), -1, 0, 1);
         d.feed("c 8 abcdefghij");
         d.due("encode(1)", d.x.encode(1), 0);
         signals(d, 0, 1, 2, 2, 8, 1, 2, 0);
@@ -201,9 +201,18 @@ public final class EdgesOfMessagesTest {
         d.due("encode(0)", d.x.encode(0), 1);
         signals(d, 1, 0, 0, 0, 3);
         signals(d, 0, 1, 2, 2, 8, 1, 2, 0);
+    }
+
+    private static void signalNone() {
+        Desk d = Desk.on(30, "NONE.");
+        d.told(TEXT, 0);
+        d.none("signal(message, 0, 3) ahead of all", message -> d.x.signal(message, 0, 3), -1, 0, 1);
+        encoded(d, "c 8 a", 0);
+        encoded(d, "a ".repeat(60), 1);
         for (int what = 0; what < 4; what++) {
             int asked = what;
             d.none("signal(0, i, " + what + ")", i -> d.x.signal(0, i, asked), Desk.beside(2));
+            d.none("signal(1, i, " + what + ")", i -> d.x.signal(1, i, asked), Desk.beside(60));
             d.none("signal(message, 0, " + what + ")", message -> d.x.signal(message, 0, asked), Desk.beside(2));
         }
         d.none("signal(0, 0, what)", what -> d.x.signal(0, 0, what), Desk.beside(4));

@@ -8,14 +8,21 @@ public final class EdgesOfSetsTest {
     public static void main(String[] args) {
         numbered();
         set();
+        setRefused();
         add();
+        addNone();
         take();
+        takeNone();
         join();
         joinRefused();
         member();
+        memberNone();
         map();
+        mapRefused();
         put();
+        putNone();
         get();
+        getNone();
         Desk.end();
     }
 
@@ -59,22 +66,31 @@ public final class EdgesOfSetsTest {
     }
 
     private static void set() {
-        Desk d = Desk.on(21, "An empty SET of an enum, which is USED: its number. NONE; FULL; FAILED.");
+        Desk d = Desk.on(21, "An empty SET of an enum, which is USED: its number.");
+        d.told(TEXT, 0);
+        d.due("set(0, 0)", d.x.set(0, 0), 0);
+        d.starts(0, 0);
+        members(d, 0);
+        for (int n = 1; n < 40; n++) {
+            d.x.add(n - 1, 1);
+            d.due("set(0, " + n % 2 + ")", d.x.set(0, n % 2), n);
+            d.due("it is empty", d.x.member(n, -1), 0);
+        }
+        d.starts(0, 0, 1);
+    }
+
+    private static void setRefused() {
+        Desk d = Desk.on(21, "NONE; FULL; FAILED.");
         d.told(TEXT, 0);
         d.none("set(0, e)", e -> d.x.set(0, e), Desk.beside(3));
         d.none("set(b, 0)", b -> d.x.set(b, 0), Desk.beside(1));
         d.starts(0);
-        d.due("set(0, 0)", d.x.set(0, 0), 0);
-        d.starts(0, 0);
-        members(d, 0);
         d.due("set(0, 2)", d.x.set(0, 2), FAILED);
         d.causes(1, 2, 3, NONE);
         d.due("set(0, 2)", d.x.set(0, 2), FAILED);
         d.causes(2, 2);
-        for (int n = 1; n < 40; n++) {
-            d.x.add(n - 1, 3);
+        for (int n = 0; n < 40; n++) {
             d.due("set(0, 0)", d.x.set(0, 0), n);
-            d.due("it is empty", d.x.member(n, -1), 0);
         }
         d.due("FULL", d.x.set(0, 0), FULL);
         d.due("NONE is told ahead of FULL", d.x.set(0, 3), NONE);
@@ -87,41 +103,57 @@ public final class EdgesOfSetsTest {
     }
 
     private static void add() {
-        Desk d = Desk.on(22, "A constant comes into a SET: 1; 0: it was in it. NONE.");
+        Desk d = Desk.on(22, "A constant comes into a SET: 1; 0: it was in it.");
         d.told(ALL, 0);
-        d.none("add(set, 0) ahead of all", set -> d.x.add(set, 0), -1, 0, 1);
         d.due("set", d.x.set(0, 0), 0);
         for (int i = 23; i >= 0; i--) {
             d.due("add(0, " + i + ")", d.x.add(0, i), 1);
             d.due("add(0, " + i + ") again", d.x.add(0, i), 0);
             d.due("how many", d.x.member(0, -1), 24 - i);
         }
-        d.none("add(0, i)", i -> d.x.add(0, i), Desk.beside(24));
-        d.none("add(0, i)", i -> d.x.add(0, i), 31, 32, 33, 63, 64, -31, -32);
-        d.none("add(set, 0)", set -> d.x.add(set, 0), Desk.beside(1));
-        d.due("how many", d.x.member(0, -1), 24);
         d.due("take", d.x.take(0, 5), 1);
         d.due("it comes back", d.x.add(0, 5), 1);
         d.due("it was in it", d.x.add(0, 5), 0);
     }
 
-    private static void take() {
-        Desk d = Desk.on(23, "A constant goes from a SET: 1; 0: it was not in it. NONE.");
+    private static void addNone() {
+        Desk d = Desk.on(22, "NONE.");
         d.told(ALL, 0);
-        d.none("take(set, 0) ahead of all", set -> d.x.take(set, 0), -1, 0, 1);
+        d.none("add(set, 0) ahead of all", set -> d.x.add(set, 0), -1, 0, 1);
+        d.due("set", d.x.set(0, 0), 0);
+        d.none("add(0, i)", i -> d.x.add(0, i), Desk.beside(24));
+        d.none("add(0, i)", i -> d.x.add(0, i), 31, 32, 33, 63, 64, -31, -32);
+        d.none("add(set, 0)", set -> d.x.add(set, 0), Desk.beside(1));
+        d.due("nothing came into it", d.x.member(0, -1), 0);
+    }
+
+    private static void take() {
+        Desk d = Desk.on(23, "A constant goes from a SET: 1; 0: it was not in it.");
+        d.told(ALL, 0);
         d.due("set", d.x.set(0, 0), 0);
         for (int i = 0; i < 24; i++) {
             d.due("take(0, " + i + ") of none", d.x.take(0, i), 0);
             d.due("add(0, " + i + ")", d.x.add(0, i), 1);
         }
-        d.none("take(0, i)", i -> d.x.take(0, i), Desk.beside(24));
-        d.none("take(0, i)", i -> d.x.take(0, i), 31, 32, 33, 63, 64, -31, -32);
-        d.none("take(set, 0)", set -> d.x.take(set, 0), Desk.beside(1));
         for (int i = 0; i < 24; i++) {
             d.due("take(0, " + i + ")", d.x.take(0, i), 1);
             d.due("take(0, " + i + ") again", d.x.take(0, i), 0);
             d.due("how many", d.x.member(0, -1), 23 - i);
         }
+    }
+
+    private static void takeNone() {
+        Desk d = Desk.on(23, "NONE.");
+        d.told(ALL, 0);
+        d.none("take(set, 0) ahead of all", set -> d.x.take(set, 0), -1, 0, 1);
+        d.due("set", d.x.set(0, 0), 0);
+        for (int i = 0; i < 24; i++) {
+            d.x.add(0, i);
+        }
+        d.none("take(0, i)", i -> d.x.take(0, i), Desk.beside(24));
+        d.none("take(0, i)", i -> d.x.take(0, i), 31, 32, 33, 63, 64, -31, -32);
+        d.none("take(set, 0)", set -> d.x.take(set, 0), Desk.beside(1));
+        d.due("nothing went from it", d.x.member(0, -1), 24);
     }
 
     private static void join() {
@@ -198,22 +230,16 @@ public final class EdgesOfSetsTest {
     }
 
     private static void member() {
-        Desk d = Desk.on(25, "The k-th constant, by ORDINALS, from 0 on, in a SET; k = -1: how many there are. NONE.");
+        Desk d = Desk.on(25, "The k-th constant, by ORDINALS, from 0 on, in a SET; k = -1: how many there are.");
         d.told(ALL, 0);
-        d.none("member(set, -1) ahead of all", set -> d.x.member(set, -1), -1, 0, 1);
         d.due("set", d.x.set(0, 0), 0);
         d.due("none", d.x.member(0, -1), 0);
-        d.none("member(0, k) of none", k -> d.x.member(0, k), 0, 1, 23, 24, Integer.MAX_VALUE);
         int[] order = {17, 0, 23, 9, 8};
         int[][] due = {{17}, {0, 17}, {0, 17, 23}, {0, 9, 17, 23}, {0, 8, 9, 17, 23}};
         for (int n = 0; n < order.length; n++) {
             d.due("add", d.x.add(0, order[n]), 1);
             members(d, 0, due[n]);
-            d.none("member(0, k)", k -> d.x.member(0, k), n + 1, n + 2, 23, 24, 32, Integer.MAX_VALUE, -2, -3,
-                Integer.MIN_VALUE);
         }
-        d.none("member(set, -1)", set -> d.x.member(set, -1), Desk.beside(1));
-        d.none("member(set, 0)", set -> d.x.member(set, 0), Desk.beside(1));
         for (int i = 0; i < 24; i++) {
             d.x.add(0, i);
         }
@@ -221,27 +247,50 @@ public final class EdgesOfSetsTest {
             d.due("member(0, " + k + ")", d.x.member(0, k), k);
         }
         d.due("all", d.x.member(0, -1), 24);
-        d.due("member(0, 24)", d.x.member(0, 24), NONE);
+    }
+
+    private static void memberNone() {
+        Desk d = Desk.on(25, "NONE.");
+        d.told(ALL, 0);
+        d.none("member(set, -1) ahead of all", set -> d.x.member(set, -1), -1, 0, 1);
+        d.due("set", d.x.set(0, 0), 0);
+        d.none("member(0, k) of none", k -> d.x.member(0, k), 0, 1, 23, 24, Integer.MAX_VALUE, -2, Integer.MIN_VALUE);
+        for (int n = 1; n <= 24; n++) {
+            d.due("add", d.x.add(0, 24 - n), 1);
+            d.none("member(0, k)", k -> d.x.member(0, k), n, n + 1, 24, 32, Integer.MAX_VALUE, -2, -3,
+                Integer.MIN_VALUE);
+        }
+        d.none("member(set, -1)", set -> d.x.member(set, -1), Desk.beside(1));
+        d.none("member(set, 0)", set -> d.x.member(set, 0), Desk.beside(1));
     }
 
     private static void map() {
-        Desk d = Desk.on(26, "An empty MAP of an enum, which is USED: its number. NONE; FULL; FAILED.");
+        Desk d = Desk.on(26, "An empty MAP of an enum, which is USED: its number.");
+        d.told(TEXT, 0);
+        d.due("map(0, 0)", d.x.map(0, 0), 0);
+        d.starts(0, 0);
+        for (int n = 1; n < 10; n++) {
+            d.x.put(n - 1, 1, n);
+            d.due("map(0, " + n % 2 + ")", d.x.map(0, n % 2), n);
+            for (int i = 0; i < 2; i++) {
+                d.due("it is empty", d.x.get(n, i), 0);
+            }
+        }
+        d.starts(0, 0, 1);
+    }
+
+    private static void mapRefused() {
+        Desk d = Desk.on(26, "NONE; FULL; FAILED.");
         d.told(TEXT, 0);
         d.none("map(0, e)", e -> d.x.map(0, e), Desk.beside(3));
         d.none("map(b, 0)", b -> d.x.map(b, 0), Desk.beside(1));
         d.starts(0);
-        d.due("map(0, 0)", d.x.map(0, 0), 0);
-        d.starts(0, 0);
         d.due("map(0, 2)", d.x.map(0, 2), FAILED);
         d.causes(1, 2, 3, NONE);
         d.due("map(0, 2)", d.x.map(0, 2), FAILED);
         d.causes(2, 2);
-        for (int n = 1; n < 10; n++) {
-            d.x.put(n - 1, 0, n);
+        for (int n = 0; n < 10; n++) {
             d.due("map(0, 0)", d.x.map(0, 0), n);
-            for (int i = 0; i < 4; i++) {
-                d.due("it is empty", d.x.get(n, i), 0);
-            }
         }
         d.due("FULL", d.x.map(0, 0), FULL);
         d.due("NONE is told ahead of FULL", d.x.map(0, 3), NONE);
@@ -254,16 +303,13 @@ public final class EdgesOfSetsTest {
     }
 
     private static void put() {
-        Desk d = Desk.on(27, "A constant has v in a MAP: 1 if it had none before, else 0. NONE.");
+        Desk d = Desk.on(27, "A constant has v in a MAP: 1 if it had none before, else 0.");
         d.told(ALL, 0);
-        d.none("put(map, 0, 1) ahead of all", map -> d.x.put(map, 0, 1), -1, 0, 1);
         d.due("map", d.x.map(0, 0), 0);
         int[] values = {0, -1, 1, Integer.MAX_VALUE, Integer.MIN_VALUE};
         for (int i = 0; i < 24; i++) {
             d.due("put(0, " + i + ")", d.x.put(0, i, values[i % 5]), 1);
         }
-        d.none("put(0, i, 1)", i -> d.x.put(0, i, 1), Desk.beside(24));
-        d.none("put(map, 0, 1)", map -> d.x.put(map, 0, 1), Desk.beside(1));
         for (int i = 0; i < 24; i++) {
             d.due("get(0, " + i + ")", d.x.get(0, i), 1);
             d.due("out()", d.x.out(), values[i % 5]);
@@ -276,10 +322,21 @@ public final class EdgesOfSetsTest {
         }
     }
 
+    private static void putNone() {
+        Desk d = Desk.on(27, "NONE.");
+        d.told(ALL, 0);
+        d.none("put(map, 0, 1) ahead of all", map -> d.x.put(map, 0, 1), -1, 0, 1);
+        d.due("map", d.x.map(0, 0), 0);
+        d.none("put(0, i, 1)", i -> d.x.put(0, i, 1), Desk.beside(24));
+        d.none("put(map, 0, 1)", map -> d.x.put(map, 0, 1), Desk.beside(1));
+        for (int i = 0; i < 24; i++) {
+            d.due("it has none", d.x.get(0, i), 0);
+        }
+    }
+
     private static void get() {
-        Desk d = Desk.on(28, "What a constant has in a MAP comes to out(): 1; 0 (out() stays): it has none. NONE.");
+        Desk d = Desk.on(28, "What a constant has in a MAP comes to out(): 1; 0 (out() stays): it has none.");
         d.told(TEXT, 0);
-        d.none("get(map, 0) ahead of all", map -> d.x.get(map, 0), -1, 0, 1);
         d.due("map", d.x.map(0, 0), 0);
         d.due("map", d.x.map(0, 1), 1);
         d.due("get(0, 3) has none", d.x.get(0, 3), 0);
@@ -293,14 +350,23 @@ public final class EdgesOfSetsTest {
         d.due("a 0 is not none", d.x.get(0, 2), 1);
         d.due("out()", d.x.out(), 0);
         d.due("get(0, 3)", d.x.get(0, 3), 1);
+        d.due("MAP 1 has none", d.x.get(1, 0), 0);
+        d.due("out() stays", d.x.out(), -7);
+    }
+
+    private static void getNone() {
+        Desk d = Desk.on(28, "NONE.");
+        d.told(TEXT, 0);
+        d.none("get(map, 0) ahead of all", map -> d.x.get(map, 0), -1, 0, 1);
+        d.due("a SET is no MAP", d.x.set(0, 0), 0);
+        d.none("get(map, 0) ahead of all", map -> d.x.get(map, 0), -1, 0, 1);
+        d.due("map", d.x.map(0, 0), 0);
+        d.due("map", d.x.map(0, 1), 1);
+        d.due("put", d.x.put(0, 3, -7), 1);
+        d.due("get(0, 3)", d.x.get(0, 3), 1);
         d.none("get(0, i)", i -> d.x.get(0, i), Desk.beside(4));
         d.none("get(1, i)", i -> d.x.get(1, i), Desk.beside(2));
         d.none("get(map, 0)", map -> d.x.get(map, 0), Desk.beside(2));
         d.due("out() stays", d.x.out(), -7);
-        d.due("MAP 1 has none", d.x.get(1, 0), 0);
-        d.due("a SET", d.x.set(0, 0), 0);
-        d.due("a SET is no MAP, and has its own numbers", d.x.add(0, 0), 1);
-        d.due("get(0, 0)", d.x.get(0, 0), 0);
-        d.due("member", d.x.member(0, -1), 1);
     }
 }

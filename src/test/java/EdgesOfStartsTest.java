@@ -11,6 +11,7 @@ public final class EdgesOfStartsTest {
         constants();
         tables();
         checks();
+        well();
         holders();
         bad();
         workedOut();
@@ -199,11 +200,11 @@ public final class EdgesOfStartsTest {
     }
 
     private static void checks() {
-        Desk d = Desk.on(0, "then each check, in order: FAILS with 3 if it is 0. Then it is WELL.");
+        Desk d = Desk.on(0, "then each check, in order: FAILS with 3 if it is 0.");
         d.told("enum A{a;table t=[1];check 1;check -1;check 65536*32768;}"
             + "enum B{b;check 1;check B.t[0]-7;check C.c;table t=[7];}enum C{c;}enum D{d,e;check e-d;check D.e-1;}"
-            + "enum E{e;check C.c/0;check 0;}enum F{f;check 65536*65536;}"
-            + "enum G{g;check 1/2;}enum H{h;check H.h+1;}", 0);
+            + "enum E{e;check C.c/0;check 0;}enum F{f;check 65536*65536;}enum G{g;check 1/2;}"
+            + "enum H{h;check H.h+1;}", 0);
         d.due("none is 0", d.x.use(0, 0), 0);
         d.due("the second is 0", d.x.use(0, 1), FAILED);
         d.causes(1, 1, 3, NONE);
@@ -215,11 +216,22 @@ public final class EdgesOfStartsTest {
         d.due("it wraps to 0", d.x.use(0, 5), FAILED);
         d.due("it is cut to 0", d.x.use(0, 6), FAILED);
         d.due("what it reads is MADE", d.x.use(0, 7), 0);
-        int[] states = {1, 2, 1, 2, 2, 2, 2, 1};
-        for (int e = 0; e < 8; e++) {
-            d.due("state(0, " + e + ")", d.x.state(0, e), states[e]);
-        }
         d.seen(0);
+    }
+
+    private static void well() {
+        Desk d = Desk.on(0, "Then it is WELL.");
+        d.told("enum A{a;}enum B{b(1);table t=[2];check 3;holder h=1/0;}enum C{c(D.d);check D.d+1;}enum D{d(C.c);}", 0);
+        for (int e = 0; e < 3; e++) {
+            d.due("use(0, " + e + ")", d.x.use(0, e), 0);
+            d.due("state(0, " + e + ")", d.x.state(0, e), 1);
+        }
+        d.due("one that it USED", d.x.state(0, 3), 1);
+        d.due("its holder is not by that", d.x.state(0, 104), 0);
+        d.due("a holder that FAILS", d.x.holder(0, 1, 0), FAILED);
+        d.due("it stays WELL", d.x.state(0, 1), 1);
+        d.due("and is USED without another START", d.x.use(0, 1), 0);
+        d.starts(0, 0, 1, 2, 3, 104);
     }
 
     private static void holders() {

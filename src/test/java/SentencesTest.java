@@ -18,6 +18,8 @@ public final class SentencesTest {
     private static final String LITERAL = "\"((?:[^\"\\\\]|\\\\.)*)\"";
     private static final Pattern RUN = Pattern.compile(
         "Desk\\.on\\((\\d+),\\s*(" + LITERAL + "(?:\\s*\\+\\s*" + LITERAL + ")*)\\)");
+    /** Where another sentence begins; a full stop among signs is one of them. */
+    private static final Pattern SENTENCE_END = Pattern.compile("[\\w)]\\. [A-Z0-9]");
     private static int wrong;
 
     public static void main(String[] args) throws IOException {
@@ -71,6 +73,10 @@ public final class SentencesTest {
             Matcher literal = Pattern.compile(LITERAL).matcher(run.group(2));
             while (literal.find()) {
                 sentence.append(literal.group(1));
+            }
+            if (SENTENCE_END.matcher(sentence).find()) {
+                wrong++;
+                System.out.println("more than one sentence: " + sentence);
             }
             int from = sections.getOrDefault(section, "").indexOf(sentence.toString());
             if (from < 0) {
