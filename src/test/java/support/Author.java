@@ -214,7 +214,10 @@ final class Author {
     private void nested(int e, int signs) {
         List<String> ends = new ArrayList<>();
         for (int n = 0; n < signs; n++) {
-            if (once(2)) {
+            if (entries[e].length > 0 && once(3)) {
+                say(tableName(e, random.nextInt(entries[e].length)), "[");
+                ends.add(0, "]");
+            } else if (once(2)) {
                 say("-");
                 ends.add(0, "");
             } else {
