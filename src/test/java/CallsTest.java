@@ -21,7 +21,7 @@ import javax.tools.JavaCompiler;
 import javax.tools.StandardJavaFileManager;
 import javax.tools.ToolProvider;
 
-/** The rules of LANGUAGE.md about calls (4, 8, 11, 12), looked up in the source as javac understands it. */
+/** The rules of LANGUAGE.md about calls (4, 8, 11), looked up in the source as javac understands it. */
 public final class CallsTest {
     private static final int MOST_DEEP = 8;
     private static final int MOST_OPEN = 300;
